@@ -326,7 +326,7 @@ public final class HalfBridge {
             case 6:
                 return span.river.inches;
             case 7:
-                return site.ruinCount();
+                return site.ruinsTold;
             case 8:
                 return site.x;
             case 9:
@@ -1029,6 +1029,10 @@ public final class HalfBridge {
             return yard < 0 || yard >= yards[side] ? river.bankHeight[side] : heights[side * ROOM + yard];
         }
 
+        boolean hasLine(int side, int yard, int line) {
+            return yard < yards[side] && lineAt(side, yard) == line;
+        }
+
         int tipLine(int side) {
             int built = yards[side];
             return built == 0 ? river.bankLine[side] : lines[side * ROOM + built - 1];
@@ -1151,7 +1155,9 @@ public final class HalfBridge {
 
         final Span span = new Span();
         int x;
+        int ruinsTold;
         private final int[] errors = new int[2 * PLACES];
+        /** The first YARDS of both SIDES first, as these are most often told. */
         private final int[] ruins = new int[2 * Span.ROOM];
 
         Site() {
@@ -1161,6 +1167,7 @@ public final class HalfBridge {
         void become(Site other) {
             span.become(other.span);
             x = other.x;
+            ruinsTold = other.ruinsTold;
             System.arraycopy(other.errors, 0, errors, 0, errors.length);
             System.arraycopy(other.ruins, 0, ruins, 0, ruins.length);
         }
@@ -1183,29 +1190,25 @@ public final class HalfBridge {
 
         void clearRuins() {
             Arrays.fill(ruins, UNTOLD);
+            ruinsTold = 0;
         }
 
         void tellRuin(int side, int place, int line) {
-            if (place >= 0 && place < Span.ROOM) {
-                ruins[side * Span.ROOM + place] = line;
+            int at = 2 * place + side;
+            if (at >= 0 && at < ruins.length) {
+                ruinsTold += ruins[at] == UNTOLD ? 1 : 0;
+                ruins[at] = line;
             }
-        }
-
-        int ruinCount() {
-            int told = 0;
-            for (int line : ruins) {
-                told += line == UNTOLD ? 0 : 1;
-            }
-            return told;
         }
 
         boolean areRuinsOf(Span then) {
-            for (int i = 0; i < ruins.length; i++) {
-                int side = i / Span.ROOM;
-                int place = i % Span.ROOM;
-                boolean isTold = ruins[i] != UNTOLD;
-                if (isTold && (place >= then.yardsOf(side) || then.lineAt(side, place) != ruins[i])) {
-                    return false;
+            int seen = 0;
+            for (int i = 0; i < ruins.length && seen < ruinsTold; i++) {
+                if (ruins[i] != UNTOLD) {
+                    seen++;
+                    if (!then.hasLine(i % 2, i / 2, ruins[i])) {
+                        return false;
+                    }
                 }
             }
             return true;
@@ -1568,6 +1571,8 @@ public final class HalfBridge {
         private final Looker looker;
         private final Span[] spares;
         private final int[] errorSigns = new int[2 * DAYS];
+        /** The right looks but once by each of its ERRORS on a day, whatever the left's is. */
+        private final int[] rightPlans = new int[3 * DAYS];
         private final int[] erredRows = new int[2 * DAYS];
         private Site told;
         private Rule left;
@@ -1609,13 +1614,15 @@ public final class HalfBridge {
                 }
                 return;
             }
+            for (int sign = -1; sign <= 1; sign++) {
+                rightPlans[3 * gone + 1 + sign] = looker.planOf(now, right, 1, sign * size);
+            }
             for (int leftSign = -1; leftSign <= 1; leftSign++) {
                 int leftPlan = looker.planOf(now, left, 0, leftSign * size);
                 for (int rightSign = -1; rightSign <= 1; rightSign++) {
-                    int rightPlan = looker.planOf(now, right, 1, rightSign * size);
                     errorSigns[2 * gone] = leftSign;
                     errorSigns[2 * gone + 1] = rightSign;
-                    goDay(now, spares[gone + 1], leftPlan, rightPlan);
+                    goDay(now, spares[gone + 1], leftPlan, rightPlans[3 * gone + 1 + rightSign]);
                     goDeeper(gone + 1);
                 }
             }

@@ -8,6 +8,16 @@ final class RandomTest {
         {"wide", "bank", "eyes", "step", "inches", "flood", "turn", "rise", "wait", "pull", "if", "or", "and", "not",
             "[", "]", "<", "<=", "=", ">=", ">", "+", "-", "*", "/", ";", "123456", "x", "\u00ff", "A", "0", "40", " "};
 
+    /** RULES by which bridges are met, missed and zigzagged. */
+    private static final String[] LIVELY =
+        {"turn other - line;rise tall - height", "turn other - line if side = 0", "turn other-line;pull yards>3",
+            "pull yards > 1;wait yards = 1", "pull yards = 2;turn 0", "wait gap < 4 and side = 1;turn other - line",
+            "pull gap < 3;turn last + 1 if last < 1;turn 0 - 1", "turn 2 if other > line;turn 0-2 if other < line;rise tall-height",
+            "turn other - line + last;rise 1 if tall > height;rise 0 - 1 if tall < height",
+            "pull line > other + 2;pull line + 2 < other;turn other / 2 - line / 2", "wait day / 2 * 2 = day;turn other - line",
+            "pull not [ line - other < 5 and other - line < 5 ] and yards > 2;turn 1 - side * 2",
+            "pull gap = 1;turn last * 2 + 1 if yards < 4;turn 0-3", "pull gap = yards;turn other-line;rise 1 - 2 * side"};
+
     private final Random random;
     private final HalfBridge program = new HalfBridge();
     private final Model model = new Model();
@@ -41,6 +51,7 @@ final class RandomTest {
             if (i == 1 || random.nextInt(25) == 0) {
                 text(riverText());
                 check("river()", program.river(), model.river());
+                errors();
             } else if (i < 5 && i > 1 || random.nextInt(25) == 0) {
                 text(ruleText());
                 check("rule()", program.rule(), model.rule());
@@ -95,7 +106,35 @@ final class RandomTest {
         };
     }
 
+    /** Often all ERRORS are told at once, as few would be seen otherwise. */
+    private void errors() {
+        if (upTo(1) == 0) {
+            return;
+        }
+        for (int i = 0; i < 16; i++) {
+            int error = upTo(18) - 9;
+            check("err(" + i / 8 + ", " + i % 8 + ", " + error + ")", program.err(i / 8, i % 8, error),
+                    model.err(i / 8, i % 8, error));
+        }
+    }
+
+    /** A RIVER whose SIDES can meet, and see one another badly. */
+    private String livelyRiver() {
+        StringBuilder b = new StringBuilder("wide " + (upTo(4) == 0 ? 40 - upTo(15) : 3 + upTo(13)));
+        b.append(";bank 0 ").append(upTo(5)).append(' ').append(upTo(3));
+        b.append(";bank 1 ").append(upTo(5)).append(' ').append(upTo(3));
+        b.append(";eyes 0 ").append(9 - upTo(3)).append(";eyes 1 ").append(9 - upTo(4));
+        b.append(";step ").append(1 + upTo(3)).append(";inches ").append(upTo(4));
+        for (int i = upTo(2); i > 0; i--) {
+            b.append(";flood ").append(upTo(9)).append(' ').append(1 + upTo(2));
+        }
+        return b.toString();
+    }
+
     private String riverText() {
+        if (upTo(2) > 0) {
+            return livelyRiver();
+        }
         StringBuilder b = new StringBuilder("wide " + (upTo(3) > 0 ? 2 + upTo(9) : 2 + upTo(39)));
         int clauses = upTo(20) == 0 ? 30 : upTo(8);
         boolean step = false, inches = false;
@@ -176,7 +215,25 @@ final class RandomTest {
         return b.toString();
     }
 
+    /** Pulls and waits by what it sees: such pairs of RULES zigzag at length. */
+    private String restless() {
+        return "pull " + plainFact() + (upTo(1) == 0 ? " and " : " or ") + plainFact() + ";wait " + plainFact() + " and "
+                + plainFact() + ";turn " + one(VALUES) + " - " + one(VALUES) + " if " + plainFact() + ";turn "
+                + one(new String[] {"1", "2", "0 - 1", "0-2", "last", "last + 1"}) + ";rise " + one(VALUES) + "-" + one(VALUES);
+    }
+
+    private String plainFact() {
+        return one(VALUES) + one(new String[] {"<", ">", "=", "<="}) + one(VALUES)
+                + (upTo(1) == 0 ? one(new String[] {"+", "-", "*"}) + one(VALUES) : "");
+    }
+
     private String ruleText() {
+        if (upTo(3) == 0) {
+            return restless();
+        }
+        if (upTo(1) == 0) {
+            return one(LIVELY);
+        }
         if (upTo(12) == 0) {
             return deepText();
         }
@@ -240,7 +297,12 @@ final class RandomTest {
             case 14 -> check("spite(" + (a = side()) + ", " + (b = rule()) + ", " + (c = some(0, 8)) + ", "
                     + (d = some(0, 4)) + ")", program.spite(a, b, c, d), model.spite(a, b, c, d));
             case 15 -> check("mend(" + (a = some(0, 1)) + ")", program.mend(a), model.mend(a));
-            case 16 -> ruin();
+            case 16 -> {
+                for (int i = upTo(2); i >= 0; i--) {
+                    ruin();
+                }
+                inquest();
+            }
             case 17 -> check("erred(" + (a = rule()) + ", " + (b = rule()) + ", " + (c = upTo(9) == 0 ? some(1, 4) : some(1, 2))
                     + ", " + (d = some(1, 9)) + ", " + (e = some(0, 2 * c)) + ")",
                     program.erred(a, b, c, d, e), model.erred(a, b, c, d, e));
@@ -255,12 +317,41 @@ final class RandomTest {
         }
     }
 
+    /** RUINS as some row of ERRORS leaves them, of some places, and who erred by them. */
+    private void inquest() {
+        int left = rule(), right = rule(), n = 1 + upTo(2), e = 9 - upTo(3);
+        if (!model.ruled(left, right) || upTo(2) == 0) {
+            return;
+        }
+        check("ruin(0, -1, 0)", program.ruin(0, -1, 0), model.ruin(0, -1, 0));
+        long row = random.nextLong();
+        Model.State then = model.after(left, right, n,
+                (side, day) -> (int) (Math.floorMod(row >> 4 * (day % 8) + 2 * side, 4L) % 3 - 1) * e);
+        for (int side = 0; side < 2; side++) {
+            for (int place = 0; place < then.yards.get(side).size(); place++) {
+                int line = then.yards.get(side).get(place)[0];
+                if (upTo(2) > 0) {
+                    check("ruin(" + side + ", " + place + ", " + line + ")", program.ruin(side, place, line),
+                            model.ruin(side, place, line));
+                }
+            }
+        }
+        for (int what = 0; what <= 2 * n; what++) {
+            check("erred(" + left + ", " + right + ", " + n + ", " + e + ", " + what + ")",
+                    program.erred(left, right, n, e, what), model.erred(left, right, n, e, what));
+        }
+    }
+
     /** Often a LINE that a YARD has now, so that some rows leave the RUINS and some do not. */
     private void ruin() {
         int side = side();
         int place = some(-1, upTo(9) == 0 ? 39 : 3);
         int line = upTo(1) == 0 ? upTo(12) - 3 : some(-9999, 9999);
         int there = model.yard(side, place, 0);
+        if (there == -100000 && model.river != null && upTo(1) == 0) {
+            place = model.state.yards.get(side & 1).size() + upTo(1);
+            line = model.tip(side & 1, 1) + upTo(4) - 2;
+        }
         if (there != -100000 && upTo(2) > 0) {
             line = there;
         }
