@@ -17,17 +17,9 @@ final class AheadTest {
         CHECK.close();
     }
 
-    private static HalfBridge at(String river, String... rules) {
-        HalfBridge x = new HalfBridge();
-        CHECK.is("river '" + river + "' stands", Told.river(x, river) > 0, true);
-        for (String rule : rules) {
-            CHECK.is("rule '" + rule + "' stands", Told.rule(x, rule) >= 0, true);
-        }
-        return x;
-    }
-
     private static void ahead() {
-        HalfBridge x = at("wide 6;bank 0 10 5;bank 1 4 6;step 2;inches 2", "turn other - line;rise 1 - side", "wait 1 = 1");
+        HalfBridge x = Told.at(CHECK, "wide 6;bank 0 10 5;bank 1 4 6;step 2;inches 2",
+                "turn other - line;rise 1 - side", "wait 1 = 1");
         int[] due = {3, 2, 2, 9, 6, 1};
         int[] behindTwo = {-2, 2, 1, 6, 4, 0};
         int[] now = {-2, 6, 1, 0, 0, 0};
@@ -58,7 +50,7 @@ final class AheadTest {
     }
 
     private static void zigzag() {
-        HalfBridge x = at("wide 10;flood 0 9;flood 1 9;eyes 0 9", "pull yards > 1", "wait 1 = 1", "wait day > 2",
+        HalfBridge x = Told.at(CHECK, "wide 10;flood 0 9;flood 1 9;eyes 0 9", "pull yards > 1", "wait 1 = 1", "wait day > 2",
                 "turn other - line;pull yards = 1", "wait day = 0");
         zigzag(x, 0, 1, 1, 2);
         zigzag(x, 1, 1, 0, 1);
@@ -77,12 +69,12 @@ final class AheadTest {
         x.spring(-1, -1, 200);
         zigzag(x, 0, 0, 0, 1);
         // On each day of 8 the ERROR is another one, but each day sees that of this day.
-        x = at("wide 40;eyes 0 9;step 9", "pull yards > 2;turn other", "wait 1 = 1");
+        x = Told.at(CHECK, "wide 40;eyes 0 9;step 9", "pull yards > 2;turn other", "wait 1 = 1");
         for (int place = 0; place < 8; place++) {
             x.err(0, place, place);
         }
         zigzag(x, 0, 1, 2, 2);
-        x = at("wide 40", "pull other = 1;wait yards = 3", "pull other = 0 and yards > 0;turn 1");
+        x = Told.at(CHECK, "wide 40", "pull other = 1;wait yards = 3", "pull other = 0 and yards > 0;turn 1");
         zigzag(x, 0, 1, 0, 2);
     }
 
@@ -100,15 +92,15 @@ final class AheadTest {
                 "pull tall<=yards or yards=tall+yards;wait 0=2-2 and yards<=gap+other;turn gap - 0 if 1<=tall;"
                     + "turn last + 1;rise yards-tall", "0", "86"}};
         for (String[] run : runs) {
-            HalfBridge x = at(run[0], run[1], run[2]);
+            HalfBridge x = Told.at(CHECK, run[0], run[1], run[2]);
             zigzag(x, 0, 1, Integer.parseInt(run[3]), Integer.parseInt(run[4]));
         }
-        lateOnes(at("wide 32;bank 0 50 50;bank 1 55 40;step 3",
+        lateOnes(Told.at(CHECK, "wide 32;bank 0 50 50;bank 1 55 40;step 3",
                 "pull other*other*27/11-other*other*27/11/3*3=0 or gap<3;turn line*other*43/11-line*other*43/11/5*5-3;"
                     + "rise line*height*31/11-line*height*31/11/4*4-2",
                 "pull other*other*48/11-other*other*48/11/3*3=0 or gap<3;turn tall*tall*82/11-tall*tall*82/11/5*5-3;"
                     + "rise line*height*20/11-line*height*20/11/4*4-1"));
-        lateOnes(at("wide 38;bank 0 50 50;bank 1 55 40;step 3",
+        lateOnes(Told.at(CHECK, "wide 38;bank 0 50 50;bank 1 55 40;step 3",
                 "pull line*other*35/10-line*other*35/10/3*3<2 or gap<3;turn other*line*35/10-other*line*35/10/5*5-3;"
                     + "rise line*other*36/10-line*other*36/10/4*4-2",
                 "pull other*line*29/9-other*line*29/9/3*3<1 or gap<3;turn tall*line*57/9-tall*line*57/9/5*5-3;"
@@ -128,7 +120,7 @@ final class AheadTest {
     }
 
     private static void whatever() {
-        HalfBridge x = at("wide 2;bank 1 1 0;eyes 0 9;step 2", "turn other - line");
+        HalfBridge x = Told.at(CHECK, "wide 2;bank 1 1 0;eyes 0 9;step 2", "turn other - line");
         CHECK.is("no days of errors", x.whatever(0, -1, 1, 0, 0, 9), 1);
         CHECK.is("one: 0 alone is in time", x.whatever(0, -1, 1, 0, 1, 9), 1);
         CHECK.is("by 4 it sees right", x.whatever(0, -1, 1, 0, 1, 4), 3);
@@ -148,11 +140,11 @@ final class AheadTest {
         }
         x.spring(-1, -1, 1);
         CHECK.is("met, missed", x.whatever(0, -1, 1, 0, 3, 9), 0);
-        x = at("wide 2");
+        x = Told.at(CHECK, "wide 2");
         x.spring(-1, -1, 1);
         CHECK.is("met in time", x.whatever(-1, -1, 0, 0, 3, 9), 27);
         // An ERROR in place of that of day 0 is not one of day 8.
-        x = at("wide 2;bank 1 1 0;eyes 0 9;step 2", "wait day < 8;turn other - line", "wait day < 8");
+        x = Told.at(CHECK, "wide 2;bank 1 1 0;eyes 0 9;step 2", "wait day < 8;turn other - line", "wait day < 8");
         CHECK.is("day 8 is seen as told", x.whatever(0, 1, 9, 0, 1, 9), 3);
         x.spring(0, 1, 7);
         CHECK.is("from this day on: the second", x.whatever(0, 1, 9, 0, 2, 9), 3);
@@ -167,22 +159,22 @@ final class AheadTest {
     }
 
     private static void straight() {
-        straight(at("wide 4;bank 1 2 0"), 0, -1, 2, 1, 1);
-        straight(at("wide 4;bank 1 2 0;inches 1"), 0, -1, 1, 0, 1);
-        straight(at("wide 4;bank 1 2 0;inches 2"), 0, -1, 0, 0, 0);
-        straight(at("wide 4;bank 1 2 0;step 2"), 0, -1, 2, 0, 2);
-        straight(at("wide 4;bank 1 2 0;step 20"), 0, -1, 2, 0, 2);
-        straight(at("wide 4;bank 0 3 0;step 20"), 0, -1, 3, -2, -1);
-        straight(at("wide 4;bank 1 4 0;step 20"), 0, -1, 4, 2, 2);
-        straight(at("wide 4;bank 1 5 0;step 20"), 0, -1, -2);
-        straight(at("wide 4;bank 1 2 1"), 0, -1, -2);
-        straight(at("wide 4;bank 1 2 1;inches 1"), 0, -1, 1, 0, 1);
-        straight(at("wide 12;bank 1 1 0"), 0, -1, 1, 0, 0, 0, 0, 0, 1);
-        straight(at("wide 13;inches 99"), 0, -1, -2);
-        straight(at("wide 40;inches 99"), 1, -1, -2);
-        straight(at("wide 6;bank 1 9 0", "wait 1 = 1"), 0, 0, -2);
-        straight(at("wide 6;bank 1 9 0;step 2", "wait 1 = 1"), 0, 0, 9, 0, 1, 2, 2, 2, 2);
-        HalfBridge x = at("wide 4;bank 1 2 0", "turn 0 - 1");
+        straight(Told.at(CHECK, "wide 4;bank 1 2 0"), 0, -1, 2, 1, 1);
+        straight(Told.at(CHECK, "wide 4;bank 1 2 0;inches 1"), 0, -1, 1, 0, 1);
+        straight(Told.at(CHECK, "wide 4;bank 1 2 0;inches 2"), 0, -1, 0, 0, 0);
+        straight(Told.at(CHECK, "wide 4;bank 1 2 0;step 2"), 0, -1, 2, 0, 2);
+        straight(Told.at(CHECK, "wide 4;bank 1 2 0;step 20"), 0, -1, 2, 0, 2);
+        straight(Told.at(CHECK, "wide 4;bank 0 3 0;step 20"), 0, -1, 3, -2, -1);
+        straight(Told.at(CHECK, "wide 4;bank 1 4 0;step 20"), 0, -1, 4, 2, 2);
+        straight(Told.at(CHECK, "wide 4;bank 1 5 0;step 20"), 0, -1, -2);
+        straight(Told.at(CHECK, "wide 4;bank 1 2 1"), 0, -1, -2);
+        straight(Told.at(CHECK, "wide 4;bank 1 2 1;inches 1"), 0, -1, 1, 0, 1);
+        straight(Told.at(CHECK, "wide 12;bank 1 1 0"), 0, -1, 1, 0, 0, 0, 0, 0, 1);
+        straight(Told.at(CHECK, "wide 13;inches 99"), 0, -1, -2);
+        straight(Told.at(CHECK, "wide 40;inches 99"), 1, -1, -2);
+        straight(Told.at(CHECK, "wide 6;bank 1 9 0", "wait 1 = 1"), 0, 0, -2);
+        straight(Told.at(CHECK, "wide 6;bank 1 9 0;step 2", "wait 1 = 1"), 0, 0, 9, 0, 1, 2, 2, 2, 2);
+        HalfBridge x = Told.at(CHECK, "wide 4;bank 1 2 0", "turn 0 - 1");
         straight(x, 0, 0, 0, 0, 0);
         CHECK.is("what 7", x.straight(0, 0, 7), NO);
         CHECK.is("what -1", x.straight(0, 0, -1), NO);
@@ -195,19 +187,19 @@ final class AheadTest {
     }
 
     private static void straightOfTheRight() {
-        straight(at("wide 3;bank 1 1 0"), 1, -1, 1, -1);
-        HalfBridge x = at("wide 3;bank 1 1 0");
+        straight(Told.at(CHECK, "wide 3;bank 1 1 0"), 1, -1, 1, -1);
+        HalfBridge x = Told.at(CHECK, "wide 3;bank 1 1 0");
         CHECK.is("none on the second day, as the left has closed the GAP", x.straight(1, -1, 2), -100);
         // The left sees the right's LINE of the day before.
-        straight(at("wide 4;bank 1 2 0;step 2", "turn other - line"), 1, 0, 0, 0, 0);
-        straight(at("wide 2;bank 1 2 0;step 2", "turn 1"), 1, 0, 1, -1);
+        straight(Told.at(CHECK, "wide 4;bank 1 2 0;step 2", "turn other - line"), 1, 0, 0, 0, 0);
+        straight(Told.at(CHECK, "wide 2;bank 1 2 0;step 2", "turn 1"), 1, 0, 1, -1);
     }
 
     private static void straightThroughFloods() {
         // Day 0: both build, MET, but the flood takes both; day 1 closes it.
-        straight(at("wide 2;bank 1 1 0;flood 0 1"), 0, -1, 1, 0, 1);
+        straight(Told.at(CHECK, "wide 2;bank 1 1 0;flood 0 1"), 0, -1, 1, 0, 1);
         // The right finds no GAP on day 1, the flood opens it again: none that day, a YARD on the third.
-        straight(at("wide 3;bank 1 1 0;flood 1 1"), 1, -1, 1, 0, -100, -1);
+        straight(Told.at(CHECK, "wide 3;bank 1 1 0;flood 1 1"), 1, -1, 1, 0, -100, -1);
     }
 
     private static void spite(HalfBridge x, int side, int rule, int c, int... due) {
@@ -218,7 +210,7 @@ final class AheadTest {
     }
 
     private static void spite() {
-        HalfBridge x = at("wide 40;step 2", "turn other - line", "turn 1 if other > line", "wait 1 = 1");
+        HalfBridge x = Told.at(CHECK, "wide 40;step 2", "turn other - line", "turn 1 if other > line", "wait 1 = 1");
         spite(x, 0, 0, 0, 0, 0, 0, 0, 0);
         spite(x, 0, 0, 2, 2, -2, 0, 0, 0);
         spite(x, 0, 0, 6, 6, -2, -2, -2, 0);
@@ -236,7 +228,7 @@ final class AheadTest {
         CHECK.is("no rule -2", x.spite(0, -2, 1, 0), NO);
         x.build(1, -1, 2);
         CHECK.is("all its YARDS count", x.spite(0, -1, 0, 0), 3);
-        x = at("wide 3;step 1", "turn other - line");
+        x = Told.at(CHECK, "wide 3;step 1", "turn other - line");
         spite(x, 1, 0, 3, 1, -1);
         x.spring(-1, -1, 9);
         CHECK.is("met", x.spite(0, 0, 1, 0), NO);
@@ -248,37 +240,37 @@ final class AheadTest {
     }
 
     private static void mend() {
-        HalfBridge x = at("wide 6;bank 1 5 0");
+        HalfBridge x = Told.at(CHECK, "wide 6;bank 1 5 0");
         mend(x, 0, 0);
         for (int i = 0; i < 3; i++) {
             x.build(0, -1, 0);
         }
         mend(x, 2, 0);
-        x = at("wide 6;bank 0 5 0");
+        x = Told.at(CHECK, "wide 6;bank 0 5 0");
         for (int i = 0; i < 3; i++) {
             x.build(1, -1, 0);
         }
         mend(x, 0, 2);
-        x = at("wide 6;bank 1 5 0");
+        x = Told.at(CHECK, "wide 6;bank 1 5 0");
         for (int i = 0; i < 2; i++) {
             x.build(0, -1, 0);
             x.build(1, 1, 0);
         }
         mend(x, 1, 2);
-        x = at("wide 6;bank 1 0 5");
+        x = Told.at(CHECK, "wide 6;bank 1 0 5");
         for (int i = 0; i < 3; i++) {
             x.build(0, 0, -1);
         }
         mend(x, 2, 0);
-        mend(at("wide 6;bank 1 7 7"), 0, 0);
-        mend(at("wide 6;bank 1 8 7"), -2, -2);
-        mend(at("wide 6;bank 1 7 8"), -2, -2);
-        mend(at("wide 6;bank 0 99 0;step 14"), -2, -2);
-        mend(at("wide 6;bank 0 98 0;step 14"), 0, 0);
-        x = at("wide 2;bank 1 1 0");
+        mend(Told.at(CHECK, "wide 6;bank 1 7 7"), 0, 0);
+        mend(Told.at(CHECK, "wide 6;bank 1 8 7"), -2, -2);
+        mend(Told.at(CHECK, "wide 6;bank 1 7 8"), -2, -2);
+        mend(Told.at(CHECK, "wide 6;bank 0 99 0;step 14"), -2, -2);
+        mend(Told.at(CHECK, "wide 6;bank 0 98 0;step 14"), 0, 0);
+        x = Told.at(CHECK, "wide 2;bank 1 1 0");
         x.spring(-1, -1, 1);
         mend(x, 0, 0);
-        x = at("wide 2;bank 1 2 0");
+        x = Told.at(CHECK, "wide 2;bank 1 2 0");
         x.spring(-1, -1, 1);
         mend(x, 0, 1);
         CHECK.is("what 2", x.mend(2), -1);
@@ -286,7 +278,7 @@ final class AheadTest {
     }
 
     private static void nothingChanges() {
-        HalfBridge x = at("wide 9;bank 1 3 1;eyes 0 9;eyes 1 9;step 2", "turn other - line;rise tall - height");
+        HalfBridge x = Told.at(CHECK, "wide 9;bank 1 3 1;eyes 0 9;eyes 1 9;step 2", "turn other - line;rise tall - height");
         x.seed(5);
         x.err(0, 1, 7);
         x.ruin(0, 1, 1);

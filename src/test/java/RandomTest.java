@@ -12,7 +12,8 @@ final class RandomTest {
     private static final String[] LIVELY =
         {"turn other - line;rise tall - height", "turn other - line if side = 0", "turn other-line;pull yards>3",
             "pull yards > 1;wait yards = 1", "pull yards = 2;turn 0", "wait gap < 4 and side = 1;turn other - line",
-            "pull gap < 3;turn last + 1 if last < 1;turn 0 - 1", "turn 2 if other > line;turn 0-2 if other < line;rise tall-height",
+            "pull gap < 3;turn last + 1 if last < 1;turn 0 - 1",
+            "turn 2 if other > line;turn 0-2 if other < line;rise tall-height",
             "turn other - line + last;rise 1 if tall > height;rise 0 - 1 if tall < height",
             "pull line > other + 2;pull line + 2 < other;turn other / 2 - line / 2", "wait day / 2 * 2 = day;turn other - line",
             "pull not [ line - other < 5 and other - line < 5 ] and yards > 2;turn 1 - side * 2",

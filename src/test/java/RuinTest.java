@@ -11,17 +11,8 @@ final class RuinTest {
         CHECK.close();
     }
 
-    private static HalfBridge at(String river, String... rules) {
-        HalfBridge x = new HalfBridge();
-        CHECK.is("river '" + river + "' stands", Told.river(x, river) > 0, true);
-        for (String rule : rules) {
-            CHECK.is("rule '" + rule + "' stands", Told.rule(x, rule) >= 0, true);
-        }
-        return x;
-    }
-
     private static void ruins() {
-        HalfBridge x = at("wide 4");
+        HalfBridge x = Told.at(CHECK, "wide 4");
         CHECK.is("ruin", x.ruin(0, 0, -9999), true);
         CHECK.is("ruin", x.ruin(0, 39, 9999), true);
         CHECK.is("ruin", x.ruin(1, 39, 0), true);
@@ -51,7 +42,7 @@ final class RuinTest {
 
     private static void oneDay() {
         // By 9 the left sees 1 and -3, 0 or 3: it turns by -2, 1 or 2.
-        HalfBridge x = at("wide 4;bank 1 1 0;eyes 0 9;eyes 1 9;step 2", "turn other - line");
+        HalfBridge x = Told.at(CHECK, "wide 4;bank 1 1 0;eyes 0 9;eyes 1 9;step 2", "turn other - line");
         x.err(0, 0, 9);
         erred(x, 0, -1, 9, 9, 1, 1);
         x.ruin(0, 0, 2);
@@ -81,7 +72,7 @@ final class RuinTest {
     }
 
     private static void twoDays() {
-        HalfBridge x = at("wide 20;bank 1 0 0;eyes 0 9;step 20", "turn other - line");
+        HalfBridge x = Told.at(CHECK, "wide 20;bank 1 0 0;eyes 0 9;step 20", "turn other - line");
         // 9 * 9 * 20 / 90 is 18 on the first day, 9 * 9 * 18 / 90 is 16 on the second.
         // From -18 the left can't come to 16 by a step of 20; what the right sees is nothing to it.
         x.ruin(0, 1, 16);
@@ -99,7 +90,7 @@ final class RuinTest {
 
     /** No DAY comes when it is MET, but its ERRORS are rows all the same. */
     private static void met() {
-        HalfBridge x = at("wide 2");
+        HalfBridge x = Told.at(CHECK, "wide 2");
         erred(x, -1, -1, 1, 6561, 1, 1, 1, 1, 1, 1, 1, 1);
         x.ruin(0, 0, 0);
         x.ruin(1, 0, 0);
@@ -109,7 +100,7 @@ final class RuinTest {
     }
 
     private static void wrong() {
-        HalfBridge x = at("wide 4", "turn 1");
+        HalfBridge x = Told.at(CHECK, "wide 4", "turn 1");
         int[][] wrong = {{1, 0, 1, 1, 0}, {-2, 0, 1, 1, 0}, {0, 1, 1, 1, 0}, {0, -2, 1, 1, 0}, {0, 0, 0, 1, 0},
             {0, 0, 5, 1, 0}, {0, 0, 1, 0, 0}, {0, 0, 1, 10, 0}, {0, 0, 1, 1, 3}, {0, 0, 1, 1, -1}, {0, 0, 4, 1, 9}};
         for (int[] w : wrong) {

@@ -37,4 +37,14 @@ final class Told {
         tape(x, text);
         return x.rule();
     }
+
+    /** A new object with a RIVER and RULES, all of which must stand. */
+    static HalfBridge at(Check check, String river, String... rules) {
+        HalfBridge x = new HalfBridge();
+        check.is("river '" + river + "' stands", river(x, river) > 0, true);
+        for (String rule : rules) {
+            check.is("rule '" + rule + "' stands", rule(x, rule) >= 0, true);
+        }
+        return x;
+    }
 }

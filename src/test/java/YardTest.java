@@ -23,17 +23,8 @@ final class YardTest {
         CHECK.close();
     }
 
-    private static HalfBridge at(String river, String... rules) {
-        HalfBridge x = new HalfBridge();
-        CHECK.is("river '" + river + "' stands", Told.river(x, river) > 0, true);
-        for (String rule : rules) {
-            CHECK.is("rule '" + rule + "' stands", Told.rule(x, rule) >= 0, true);
-        }
-        return x;
-    }
-
     private static void byHand() {
-        HalfBridge x = at("wide 4;bank 0 10 5;bank 1 4 7;step 2;eyes 0 9;eyes 1 3");
+        HalfBridge x = Told.at(CHECK, "wide 4;bank 0 10 5;bank 1 4 7;step 2;eyes 0 9;eyes 1 3");
         CHECK.is("bank", x.tip(0, 1) * 100 + x.tip(0, 2), 1005);
         CHECK.is("bank", x.tip(1, 1) * 100 + x.tip(1, 2), 407);
         CHECK.is("eyes", x.tip(0, 6) * 10 + x.tip(1, 6), 93);
@@ -57,7 +48,7 @@ final class YardTest {
         CHECK.is("gap", x.count(1), 2);
         CHECK.is("build", x.build(1, -2, -2), true);
         CHECK.is("below 0 later", x.yard(1, 0, 0) * 100 + x.yard(1, 0, 1), 205);
-        CHECK.is("build", x.build(1, -2, 0) , true);
+        CHECK.is("build", x.build(1, -2, 0), true);
         CHECK.is("no gap", x.build(0, 0, 0), false);
         CHECK.is("no gap", x.build(1, 0, 0), false);
         CHECK.is("no yard 2", x.yard(0, 2, 0), NO);
@@ -78,14 +69,14 @@ final class YardTest {
             x.build(1, -2, -2);
         }
         CHECK.is("line 0", x.tip(1, 1), 0);
-        x = at("wide 3");
+        x = Told.at(CHECK, "wide 3");
         x.build(0, -1, -1);
         CHECK.is("below 0", x.yard(0, 0, 0) + 10 * x.yard(0, 0, 1), -11);
         CHECK.is("crooked as if above 0", x.tip(0, 3), 2);
     }
 
     private static void seen() {
-        HalfBridge x = at("wide 6;bank 0 10 5;bank 1 4 7;eyes 0 9;eyes 1 3");
+        HalfBridge x = Told.at(CHECK, "wide 6;bank 0 10 5;bank 1 4 7;eyes 0 9;eyes 1 3");
         CHECK.is("no error", x.tip(0, 4) * 100 + x.tip(0, 5), 407);
         x.err(0, 0, 5);
         CHECK.is("5 * 9 * 6 / 90", x.tip(0, 4) * 100 + x.tip(0, 5), 704);
@@ -100,7 +91,7 @@ final class YardTest {
     }
 
     private static void errors() {
-        HalfBridge x = at("wide 6");
+        HalfBridge x = Told.at(CHECK, "wide 6");
         CHECK.is("err", x.err(0, 0, 9), 0);
         CHECK.is("err", x.err(0, 0, -9), 9);
         CHECK.is("err", x.err(0, 7, 1), 0);
@@ -117,7 +108,7 @@ final class YardTest {
     }
 
     private static void bothLookFirst() {
-        HalfBridge x = at("wide 6;bank 0 10 5;bank 1 4 5;step 2;inches 1", "turn other - line;rise tall - height");
+        HalfBridge x = Told.at(CHECK, "wide 6;bank 0 10 5;bank 1 4 5;step 2;inches 1", "turn other - line;rise tall - height");
         CHECK.is("a day", x.spring(0, 0, 1), 1);
         CHECK.is("left", x.tip(0, 1), 8);
         CHECK.is("right", x.tip(1, 1), 6);
@@ -130,10 +121,10 @@ final class YardTest {
     }
 
     private static void secondFindsNoGap() {
-        HalfBridge x = at("wide 3", "turn 1", "pull yards = 1;turn 1");
+        HalfBridge x = Told.at(CHECK, "wide 3", "turn 1", "pull yards = 1;turn 1");
         CHECK.is("met", x.spring(-1, 0, 9), 2);
         CHECK.is("left has two", x.tip(0, 0) * 10 + x.tip(1, 0), 21);
-        x = at("wide 3", "turn 1", "pull yards = 1;turn 1");
+        x = Told.at(CHECK, "wide 3", "turn 1", "pull yards = 1;turn 1");
         CHECK.is("the right pulls though the GAP is closed then", x.spring(-1, 1, 2), 2);
         CHECK.is("so it is not met", x.count(1) * 100 + x.tip(0, 0) * 10 + x.tip(1, 0), 120);
         CHECK.is("a day later it is", x.spring(-1, 1, 9), 3);
@@ -141,23 +132,24 @@ final class YardTest {
     }
 
     private static void floods() {
-        HalfBridge x = at("wide 6;flood 2 1;flood 3 2;flood 3 1");
+        HalfBridge x = Told.at(CHECK, "wide 6;flood 2 1;flood 3 2;flood 3 1");
         CHECK.is("a flood on day 2", x.spring(-1, -1, 3), 3);
         CHECK.is("one from each", x.tip(0, 0) * 10 + x.tip(1, 0), 22);
         CHECK.is("two floods on day 3", x.spring(-1, -1, 1), 4);
         CHECK.is("three from each", x.tip(0, 0) * 10 + x.tip(1, 0), 0);
         CHECK.is("then none", x.spring(-1, -1, 9), 7);
-        x = at("wide 8;flood 0 9");
+        x = Told.at(CHECK, "wide 8;flood 0 9");
         x.build(0, 1, 0);
         CHECK.is("as many as there are", x.spring(-1, -1, 1), 1);
         CHECK.is("gap", x.count(1), 8);
-        x = at("wide 2;flood 0 1;flood 1 1");
+        x = Told.at(CHECK, "wide 2;flood 0 1;flood 1 1");
         CHECK.is("met behind floods only", x.spring(-1, -1, 9), 3);
         CHECK.is("floods told", x.count(4), 2);
     }
 
     private static void pullAndWait() {
-        HalfBridge x = at("wide 20;step 3", "pull yards > 1;wait yards = 1;turn 3", "pull yards = 2;turn 0", "pull 1 = 1");
+        HalfBridge x = Told.at(CHECK, "wide 20;step 3", "pull yards > 1;wait yards = 1;turn 3",
+                "pull yards = 2;turn 0", "pull 1 = 1");
         x.spring(0, 1, 1);
         CHECK.is("both build", x.tip(0, 0) * 10 + x.tip(1, 0), 11);
         CHECK.is("by its turn", x.tip(0, 1), 3);
@@ -170,11 +162,11 @@ final class YardTest {
         CHECK.is("the left pulls", x.tip(0, 0) * 10 + x.tip(1, 0), 12);
         CHECK.is("nothing to pull", x.spring(2, 2, 9), 13);
         CHECK.is("nothing is left", x.count(1), 20);
-        x = at("wide 20", "wait 1 = 1;pull yards = 1");
+        x = Told.at(CHECK, "wide 20", "wait 1 = 1;pull yards = 1");
         x.build(0, 1, 1);
         x.spring(0, 0, 1);
         CHECK.is("pull goes ahead of wait", x.tip(0, 0), 0);
-        x = at("wide 20", "wait 1 = 2;wait 2 = 2", "pull 1 = 2;pull yards = 1");
+        x = Told.at(CHECK, "wide 20", "wait 1 = 2;wait 2 = 2", "pull 1 = 2;pull yards = 1");
         x.build(1, 0, 0);
         x.spring(0, 1, 1);
         CHECK.is("some wait, some pull", x.count(1), 20);
@@ -182,7 +174,7 @@ final class YardTest {
 
     /** The RULE of the left tells the value of a SUM by the TURN of a YARD, from -20 to 20. */
     private static int turnBy(String river, int lefts, int days, String sum) {
-        HalfBridge x = at(river, "turn " + sum, "wait 1 = 1");
+        HalfBridge x = Told.at(CHECK, river, "turn " + sum, "wait 1 = 1");
         x.err(0, days % 8, 9);
         if (days > 0) {
             x.spring(1, 1, days);
@@ -209,7 +201,7 @@ final class YardTest {
         CHECK.is("yards", turnBy(river, 3, 0, "yards"), 3);
         CHECK.is("last", turnBy(river, 2, 0, "last"), -3);
         CHECK.is("last without", turnBy(river, 0, 0, "last"), 0);
-        HalfBridge x = at(river, "turn side * 7");
+        HalfBridge x = Told.at(CHECK, river, "turn side * 7");
         x.spring(0, 0, 1);
         CHECK.is("side of the left", x.yard(0, 0, 2), 0);
         CHECK.is("side of the right", x.yard(1, 0, 2), 7);
@@ -240,14 +232,14 @@ final class YardTest {
         CHECK.is("2^63 goes round", turnBy(river, 2, 0, wrapped), 20);
         CHECK.is("2^64 goes round", turnBy(river, 2, 0, "2" + " * 2".repeat(50) + " * 8192"), 0);
         String byLess = "2" + " * 2".repeat(50) + " * 4096 / line + 1";
-        HalfBridge x = at("wide 9;step 20", "turn " + byLess);
+        HalfBridge x = Told.at(CHECK, "wide 9;step 20", "turn " + byLess);
         x.build(0, -1, 0);
         x.spring(0, -1, 1);
         CHECK.is("the least number by -1 goes round", x.yard(0, 1, 2), -20);
     }
 
     private static void holds(String test, boolean due) {
-        HalfBridge x = at("wide 20", "wait " + test);
+        HalfBridge x = Told.at(CHECK, "wide 20", "wait " + test);
         x.spring(0, -1, 1);
         CHECK.is(test, x.tip(0, 0) == 0, due);
     }
@@ -276,19 +268,19 @@ final class YardTest {
 
     private static void firstClause() {
         String river = "wide 20;step 20";
-        HalfBridge x = at(river, "rise 9 if gap = 1;turn 1 if gap = 1;turn 2 if gap = 20;turn 3;rise 4;rise 5");
+        HalfBridge x = Told.at(CHECK, river, "rise 9 if gap = 1;turn 1 if gap = 1;turn 2 if gap = 20;turn 3;rise 4;rise 5");
         x.spring(0, -1, 1);
         CHECK.is("the first whose TEST holds", x.yard(0, 0, 2) * 10 + x.yard(0, 0, 3), 24);
         x.spring(0, -1, 1);
         CHECK.is("the first without", x.yard(0, 1, 2) * 10 + x.yard(0, 1, 3), 34);
-        x = at(river, "turn 7 if gap = 1;rise 3");
+        x = Told.at(CHECK, river, "turn 7 if gap = 1;rise 3");
         x.spring(0, -1, 1);
         CHECK.is("0 without one", x.yard(0, 0, 2) * 10 + x.yard(0, 0, 3), 3);
         CHECK.is("NONE builds straight", x.yard(1, 0, 2) * 10 + x.yard(1, 0, 3), 0);
     }
 
     private static void errorOfTheDay() {
-        HalfBridge x = at("wide 40;eyes 0 9;step 20", "turn other - line", "wait 1 = 1");
+        HalfBridge x = Told.at(CHECK, "wide 40;eyes 0 9;step 20", "turn other - line", "wait 1 = 1");
         x.err(0, 3, 5);
         x.spring(1, 1, 2);
         CHECK.is("day 2", x.tip(0, 4), 0);
@@ -303,7 +295,7 @@ final class YardTest {
     }
 
     private static void springLimits() {
-        HalfBridge x = at("wide 4", "wait 1 = 1");
+        HalfBridge x = Told.at(CHECK, "wide 4", "wait 1 = 1");
         CHECK.is("0 days", x.spring(0, 0, 0), -1);
         CHECK.is("201 days", x.spring(0, 0, 201), -1);
         CHECK.is("no rule 1", x.spring(1, 0, 1), -1);
@@ -324,7 +316,7 @@ final class YardTest {
     }
 
     private static void misses() {
-        HalfBridge x = at("wide 2;bank 0 1 5;bank 1 3 4;inches 2");
+        HalfBridge x = Told.at(CHECK, "wide 2;bank 0 1 5;bank 1 3 4;inches 2");
         CHECK.is("lines", x.miss(0), 2);
         CHECK.is("heights", x.miss(1), 1);
         CHECK.is("not met", x.miss(2), 0);
@@ -340,7 +332,7 @@ final class YardTest {
         CHECK.is("lines", x.miss(0), 3);
         CHECK.is("met", x.miss(2), 1);
         CHECK.is("missed by lines", x.miss(3), 0);
-        x = at("wide 2;bank 0 1 5;bank 1 3 8;inches 2");
+        x = Told.at(CHECK, "wide 2;bank 0 1 5;bank 1 3 8;inches 2");
         x.spring(-1, -1, 1);
         CHECK.is("missed by heights", x.miss(3) * 10 + x.miss(2), 1);
     }
