@@ -254,15 +254,18 @@ public final class HalfBridge {
     }
 
     public boolean ruin(int side, int place, int line) {
-        if (!hasRiver() || !isSide(side) || !isWithin(place, NONE, Span.ROOM - 1)
-                || !isWithin(line, -9999, 9999)) {
+        if (!hasRiver() || !isSide(side)) {
             return false;
         }
+        // No LINE is told at place NONE, so that any number may stand for it there.
         if (place == NONE) {
             site.clearRuins();
-        } else {
-            site.tellRuin(side, place, line);
+            return true;
         }
+        if (!isWithin(place, 0, Span.ROOM - 1) || !isWithin(line, -9999, 9999)) {
+            return false;
+        }
+        site.tellRuin(side, place, line);
         return true;
     }
 

@@ -697,7 +697,7 @@ final class Model {
     }
 
     boolean ruin(int side, int place, int line) {
-        if (river == null || !in(side, 0, 1) || !in(place, -1, 39) || !in(line, -9999, 9999)) {
+        if (river == null || !in(side, 0, 1) || place != -1 && !(in(place, 0, 39) && in(line, -9999, 9999))) {
             return false;
         }
         if (place == -1) {

@@ -267,8 +267,12 @@ final class RandomTest {
         return upTo(15) == 0 ? upTo(3) - 1 : upTo(1);
     }
 
+    /** At times the first or last number that is right, or the one beside it: far bounds were hardly met otherwise. */
     private int some(int least, int most) {
-        return upTo(12) == 0 ? least - 1 + upTo(most - least + 2) : least + upTo(most - least);
+        if (upTo(8) > 0) {
+            return least + upTo(most - least);
+        }
+        return new int[] {least - 1, least, most, most + 1}[upTo(3)];
     }
 
     private void call() {

@@ -4,6 +4,7 @@ final class RuinTest {
 
     public static void main(String[] args) {
         ruins();
+        noLineAtNone();
         oneDay();
         twoDays();
         met();
@@ -29,6 +30,28 @@ final class RuinTest {
         CHECK.is("told", x.count(7), 3);
         CHECK.is("place NONE", x.ruin(0, -1, 0), true);
         CHECK.is("none of both", x.count(7), 0);
+    }
+
+    /** No LINE is told at place NONE: its bounds do not bind there, all else does. */
+    private static void noLineAtNone() {
+        HalfBridge x = Told.at(CHECK, "wide 4");
+        int[] lines = {0, 9999, -9999, 10000, -10000, 100000, Integer.MAX_VALUE, Integer.MIN_VALUE};
+        for (int line : lines) {
+            for (int side = 0; side < 2; side++) {
+                x.ruin(0, 3, 7);
+                x.ruin(1, 0, -7);
+                CHECK.is("told", x.count(7), 2);
+                CHECK.is("side 2, place NONE, line " + line, x.ruin(2, -1, line), false);
+                CHECK.is("side -1, place NONE, line " + line, x.ruin(-1, -1, line), false);
+                CHECK.is("nothing happened", x.count(7), 2);
+                CHECK.is("place NONE, line " + line, x.ruin(side, -1, line), true);
+                CHECK.is("none then", x.count(7), 0);
+                CHECK.is("place NONE once more, line " + line, x.ruin(side, -1, line), true);
+                CHECK.is("still none", x.count(7), 0);
+            }
+            CHECK.is("place -2, line " + line, x.ruin(0, -2, line), false);
+            CHECK.is("no river, place NONE, line " + line, new HalfBridge().ruin(0, -1, line), false);
+        }
     }
 
     private static void erred(HalfBridge x, int left, int right, int e, int... due) {
