@@ -11,6 +11,8 @@ final class AskBoundTest {
         aheadWhat();
         aheadRefused();
         zigzag();
+        everyYardComesAgain();
+        asManyYards();
         zigzagAsOnThisDay();
         zigzagRests();
         within300();
@@ -136,6 +138,48 @@ final class AskBoundTest {
         x.pull(1);
         x.build(1, 0, 1);
         zigzags("heights part them, too", x, 4, 3, 1, 2);
+    }
+
+    /**
+     * One SIDE goes from 38 YARDS down to none and up again, as the other's one YARD tells it, 78 days each time. One of
+     * its YARDS, built by hand, is odd, and so is another one each time that it builds: YARDS that are not so later come
+     * not again, and it must have gone down to these first.
+     */
+    private static void everyYardComesAgain() {
+        for (int odd = 0; odd <= 38; odd++) {
+            for (int later : new int[] {0, 4, 5, 36, 37, 38}) {
+                for (int i = 0; i < 4; i++) {
+                    HalfBridge x = oddYard(i / 2, i % 2, odd, later);
+                    int leadIn = odd == later ? 0 : 39 - Math.min(odd, later);
+                    zigzags("odd at " + odd + ", later at " + later, x, i % 2 == 0 ? 1 : 0, i % 2, leadIn, 78);
+                }
+            }
+        }
+    }
+
+    /** The odd YARD turns (kind 0) or rises (kind 1), while the other of these counts the YARDS; at 38 there is none. */
+    private static HalfBridge oddYard(int kind, int side, int odd, int later) {
+        String[] flags = {"pull tall=0 and yards=1;wait not [ tall=38 and yards=0 ];turn 1",
+            "pull other=0 and yards=1;wait not [ other=38 and yards=0 ];rise 1"};
+        String[] movers = {"pull other=1;wait yards=38;rise 1;turn 1 if yards=" + later,
+            "pull tall=1;wait yards=38;turn 1;rise 1 if yards=" + later};
+        HalfBridge x = Told.at(CHECK, "wide 40", flags[kind], movers[kind]);
+        for (int i = 0; i < 38; i++) {
+            int by = i == odd ? 1 : 0;
+            x.build(side, kind == 0 ? by : 1, kind == 0 ? 1 : by);
+        }
+        return x;
+    }
+
+    /** As many YARDS in all each day, and all straight: those of the one SIDE are not those of the other. */
+    private static void asManyYards() {
+        HalfBridge x = Told.at(CHECK, "wide 9", "wait yards=5", "pull 1=1");
+        for (int i = 0; i < 5; i++) {
+            x.build(1, 0, 0);
+        }
+        zigzags("five come to the left", x, 0, 1, 5, 1);
+        x.spring(0, 1, 5);
+        zigzags("five come to the right", x, 1, 0, 5, 1);
     }
 
     private static void zigzagAsOnThisDay() {
@@ -273,6 +317,16 @@ final class AskBoundTest {
         CHECK.is("in time now, by 60 days", x.whatever(0, 1, 60, 1, 1, 9), 3);
         x = Told.at(CHECK, "wide 2;bank 0 1 0");
         CHECK.is("MET, but missed", x.whatever(-1, -1, 60, 0, 3, 9), 0);
+        // Both SIDES by their own: the right's told ERROR takes it off, or the row's in its place.
+        x = Told.at(CHECK, "wide 10;eyes 0 9;eyes 1 9;step 20", "turn other if day=0;turn 0");
+        x.err(1, 0, 3);
+        CHECK.is("by the right's told one", x.whatever(0, 0, 9, 0, 0, 3), 0);
+        CHECK.is("the left's by 3 is as the right's", x.whatever(0, 0, 9, 0, 1, 3), 1);
+        CHECK.is("the right's in its place", x.whatever(0, 0, 9, 1, 1, 3), 1);
+        x.err(0, 0, 3);
+        CHECK.is("both as told", x.whatever(0, 0, 9, 1, 0, 3), 1);
+        CHECK.is("the right's by 3 is as the left's", x.whatever(0, 0, 9, 1, 1, 3), 1);
+        CHECK.is("the left's in its place", x.whatever(0, 0, 9, 0, 1, 4), 0);
     }
 
     private static void whateverRefused() {
@@ -348,6 +402,13 @@ final class AskBoundTest {
                 mends("both by " + most, Told.at(CHECK, river + most + " " + most), 0, 0);
             }
         }
+        for (int side = 0; side < 2; side++) {
+            String river = "wide 6;bank " + (1 - side) + " 50 60;bank " + side + " ";
+            mends("7 more than 50 and 60", Told.at(CHECK, river + "57 67"), 0, 0);
+            mends("7 less than 50 and 60", Told.at(CHECK, river + "43 53"), 0, 0);
+            mends("8 more than 50", Told.at(CHECK, river + "58 67"), -2, -2);
+            mends("8 less than 60", Told.at(CHECK, river + "43 52"), -2, -2);
+        }
         HalfBridge x = Told.at(CHECK, "wide 6;bank 1 6 0");
         x.build(0, 0, 0);
         mends("6 with five lacking", x, 0, 0);
@@ -359,6 +420,12 @@ final class AskBoundTest {
         x.build(0, 0, 0);
         x.build(1, 0, 0);
         mends("8 can't be, whatever is pulled down", x, -2, -2);
+        for (int side = 0; side < 2; side++) {
+            x = Told.at(CHECK, "wide 6;bank " + side + " 8 0");
+            x.build(side, -1, 0);
+            // 7 with five lacking is more than 6, 8 with six more than 7: the other one has none that could be pulled down.
+            mends("8, a YARD towards the other", x, -2, -2);
+        }
         x = Told.at(CHECK, "wide 40;bank 1 41 0");
         for (int i = 0; i < 39; i++) {
             x.build(0, 0, 0);

@@ -58,6 +58,13 @@ final class DayBoundTest {
         x.spring(0, 1, 1);
         CHECK.is("the left", x.tip(0, 1) * 100 + x.tip(0, 2), 609);
         CHECK.is("the right sees the left's bank and all of the GAP", x.tip(1, 1) * 100 + x.tip(1, 2), 1009);
+        // Each by its own ERROR: 9 * 9 * 10 / 90 for the left, -5 * 9 * 10 / 90 for the right.
+        x = Told.at(CHECK, "wide 10;eyes 0 9;eyes 1 9;step 20", "turn other;rise tall");
+        x.err(0, 0, 9);
+        x.err(1, 0, -5);
+        x.spring(0, 0, 1);
+        CHECK.is("the left by 9", x.tip(0, 1) * 100 + x.tip(0, 2), 891);
+        CHECK.is("the right by -5", x.tip(1, 1) * 100 + x.tip(1, 2), -495);
         x = Told.at(CHECK, "wide 2", "turn 1", "wait gap=1", "wait gap=2");
         x.spring(0, 1, 1);
         yards("the right looked at GAP 2", x, 1, 1);
@@ -143,6 +150,16 @@ final class DayBoundTest {
                 CHECK.is("-" + sum + " held to " + step, x.yard(0, 0, 3), -held);
                 CHECK.is("-" + sum + " held to " + step, x.yard(1, 0, 2), -held);
                 CHECK.is(sum + " held to " + step, x.yard(1, 0, 3), held);
+            }
+        }
+        for (int turn : new int[] {-20, -19, 0, 19, 20}) {
+            for (int rise : new int[] {-20, -19, 0, 19, 20}) {
+                HalfBridge x = Told.at(CHECK, "wide 9;bank 0 50 50;step 20", "turn line-50+" + (turn + 20) + "-20;rise "
+                        + (rise + 20) + "-20");
+                x.spring(0, -1, 1);
+                CHECK.is("YARDS by " + turn + ", " + rise, x.tip(0, 0), 1);
+                CHECK.is("TURN by " + turn + ", " + rise, x.yard(0, 0, 2), turn);
+                CHECK.is("RISE by " + turn + ", " + rise, x.yard(0, 0, 3), rise);
             }
         }
         String[] far = {"65536*65536", "65536*32768", "32768*32768*32768*32768*4"};

@@ -152,6 +152,17 @@ final class DrawBoundTest {
         CHECK.is("its YARDS stand", x.tried(-1, -1, 9, 9, 0, 1), 18);
         x = Told.at(CHECK, "wide 2;bank 0 1 0;inches 1");
         CHECK.is("missed by inches", x.tried(-1, -1, 9, 9, 0, 0), 9);
+        // Both SIDES by their own ERRORS of the day: the left turns to 9, the right to -9 and waits.
+        x = Told.at(CHECK, "wide 10;eyes 0 9;eyes 1 9;step 20", "turn other if yards=0;turn 0", "wait yards=1;turn other");
+        x.err(0, 0, 9);
+        x.err(1, 0, -9);
+        CHECK.is("missed by 18", x.tried(0, 1, 3, 99, 0, 0), 0);
+        x.err(1, 0, 9);
+        CHECK.is("both turn to 9", x.tried(0, 1, 3, 99, 0, 0), 3);
+        x.err(0, 0, -9);
+        CHECK.is("missed by 18", x.tried(0, 1, 3, 99, 0, 0), 0);
+        x.err(1, 0, -9);
+        CHECK.is("both turn to -9", x.tried(0, 1, 3, 99, 0, 0), 3);
     }
 
     private static void aheadOfLooking() {
@@ -229,10 +240,9 @@ final class DrawBoundTest {
 
     private static void leap() {
         CHECK.sentence("LEAP: a year that 4 divides, but not 100, or 400.");
-        HalfBridge x = new HalfBridge();
         int leaps = 0;
         for (int from = 1; from <= 9999; from += 500) {
-            x = new HalfBridge();
+            HalfBridge x = new HalfBridge();
             for (int year = from; year < from + 500 && year <= 9999; year++) {
                 int due = java.time.Year.isLeap(year) ? 1 : 0;
                 CHECK.is("leap(" + year + ")", x.leap(year), due);
@@ -242,6 +252,7 @@ final class DrawBoundTest {
         CHECK.is("all of them", leaps, 2424);
         int[][] due = {{4, 1}, {96, 1}, {100, 0}, {104, 1}, {396, 1}, {399, 0}, {400, 1}, {401, 0}, {1900, 0}, {2000, 1}, {2023, 0},
             {2024, 1}, {9996, 1}};
+        HalfBridge x = new HalfBridge();
         for (int[] d : due) {
             CHECK.is("leap(" + d[0] + ")", x.leap(d[0]), d[1]);
         }

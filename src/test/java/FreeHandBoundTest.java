@@ -88,6 +88,10 @@ final class FreeHandBoundTest {
         straight(x, 0, -1, 0, 0, 0, 0, 0, 0, 0);
         straight(Told.at(CHECK, "wide 2;bank 1 2 0"), 0, -1, -2);
         straight(Told.at(CHECK, "wide 2;bank 1 1 0"), 0, -1, 1, 1);
+        // No DAY comes behind that on which it is MET, so that the other one pulls nothing down, and no flood comes.
+        straight(Told.at(CHECK, "wide 2", "pull yards=1"), 0, 0, 0, 0);
+        straight(Told.at(CHECK, "wide 2", "pull yards=1"), 1, 0, 0, 0);
+        straight(Told.at(CHECK, "wide 2;flood 1 1"), 0, -1, 0, 0);
     }
 
     private static void throughFloods() {
@@ -109,6 +113,10 @@ final class FreeHandBoundTest {
             x = waiting("wide 3;bank 0 3 0;inches " + inches);
             CHECK.is("-3 with inches " + inches, x.straight(0, 0, 0), least);
         }
+        straight(waiting("wide 6;bank 1 12 0;step 2"), 0, 0, 12, 2, 2, 2, 2, 2, 2);
+        straight(waiting("wide 6;bank 1 11 0;step 2"), 0, 0, 11, 1, 2, 2, 2, 2, 2);
+        straight(waiting("wide 6;bank 1 13 0;step 2"), 0, 0, -2);
+        straight(waiting("wide 6;bank 1 13 0;step 2;inches 1"), 0, 0, 12, 2, 2, 2, 2, 2, 2);
         // The other one comes to meet it, or runs away.
         straight(Told.at(CHECK, "wide 6;bank 1 4 0;step 2", "turn other-line"), 0, 0, 0, 0, 0, 0);
         straight(Told.at(CHECK, "wide 4;bank 1 1 0", "turn 1"), 0, 0, -2);
@@ -175,6 +183,8 @@ final class FreeHandBoundTest {
         spite(Told.at(CHECK, "wide 4", "turn 1"), 0, 0, 0, 2, 0, 0);
         spite(Told.at(CHECK, "wide 8", "turn 1"), 0, 0, 0, 4, 0, 0, 0, 0);
         spite(Told.at(CHECK, "wide 3", "turn 1"), 0, 0, 0, 1, 0, 0);
+        spite(Told.at(CHECK, "wide 2", "pull yards=1;turn 1"), 0, 0, 0, 1, 0);
+        spite(Told.at(CHECK, "wide 2;flood 1 1", "turn 1"), 1, 0, 0, 1, 0);
         // The right is free: the left closes the GAP of the second day, and the right builds none then.
         spite(Told.at(CHECK, "wide 3", "turn 1"), 1, 0, 0, 2, 0);
         CHECK.is("none then", Told.at(CHECK, "wide 3", "turn 1").spite(1, 0, 0, 2), -100);

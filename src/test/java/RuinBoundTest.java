@@ -143,6 +143,16 @@ final class RuinBoundTest {
         x.spring(1, 1, 1);
         CHECK.is("from now on", x.erred(1, 1, 3, 1, 0), 0);
         CHECK.is("from now on", x.erred(1, 1, 4, 1, 0), 6561);
+        x = Told.at(CHECK, "wide 2;flood 1 1", "pull yards=1");
+        x.ruin(0, 0, 0);
+        x.ruin(1, 0, 0);
+        for (int n = 1; n <= 4; n++) {
+            CHECK.is("MET on the first day, no DAY more, " + n, x.erred(0, 0, n, 1, 0), all[n - 1]);
+        }
+        x.spring(0, 0, 1);
+        for (int n = 1; n <= 4; n++) {
+            CHECK.is("MET now, " + n, x.erred(0, 0, n, 1, 0), all[n - 1]);
+        }
     }
 
     private static void sizes() {

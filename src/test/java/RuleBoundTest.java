@@ -52,6 +52,13 @@ final class RuleBoundTest {
             CHECK.is("RULE " + rule + " stays", x.ahead(rule, -1, 1, 3), rule + 1);
         }
         CHECK.is("no RULE 6", x.ahead(6, -1, 1, 3), -1);
+        x = Told.at(CHECK, "wide 9;step 9");
+        for (int rule = 0; rule < 6; rule++) {
+            CHECK.is("one of 60 VALUES", Told.rule(x, "turn " + (rule + 1) + "+1-1".repeat(28) + "+1*1-1"), rule);
+        }
+        for (int rule = 0; rule < 6; rule++) {
+            CHECK.is("RULE " + rule + " of 60 VALUES stays", x.ahead(rule, -1, 1, 3), rule + 1);
+        }
         CHECK.sentence("NONE, and nothing happens: there are 6.");
         new Rich(CHECK, Rich::sixRules).refuses("a seventh", HalfBridge::rule, -1);
         new Rich(CHECK, () -> {
@@ -147,6 +154,10 @@ final class RuleBoundTest {
             for (int i = 0; i < 5; i++) {
                 holds(a + signs[i] + "2", due[i]);
                 holds("1 + " + a + " " + signs[i] + " 3", due[i]);
+                holds("not " + a + signs[i] + "2", !due[i]);
+                holds("1=1 and " + a + signs[i] + "2", due[i]);
+                holds("1=2 or " + a + signs[i] + "2", due[i]);
+                holds("not [" + a + signs[i] + "2 and 1=1]", !due[i]);
             }
         }
         for (String sign : new String[] {"==", "=<", "=>", "<>", "><", "<<", ">>"}) {

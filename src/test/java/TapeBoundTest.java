@@ -114,6 +114,16 @@ final class TapeBoundTest {
             CHECK.is("river of the first " + n, x.river(), due);
             CHECK.is("its step", x.count(5), n < 6 || n > 8 && n < 15 ? 0 : n < 9 ? 1 : n == 15 ? 1 : 17);
         }
+        HalfBridge cut = new HalfBridge();
+        Told.tape(cut, "wait 1<=2;turn 1");
+        cut.end(7);
+        CHECK.is("what stood behind is gone", cut.rule(), -2 - (1 + 8 * 7));
+        Told.tape(cut, "turn 1+1+1+1+1+1");
+        CHECK.is("a rule", cut.rule(), 0);
+        Told.tape(cut, "turn 1");
+        CHECK.is("a shorter one", cut.rule(), 1);
+        Told.river(cut, "wide 9;step 9");
+        CHECK.is("of its own bytes alone", cut.ahead(1, -1, 1, 3), 1);
         CHECK.sentence("NONE, and nothing happens, if it has not so many, or n is below 0.");
         int size = Rich.TAPE.length();
         TOLD.changes("one byte less", x -> x.end(size - 1), size - 1);
