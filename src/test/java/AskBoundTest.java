@@ -12,6 +12,7 @@ final class AskBoundTest {
         aheadRefused();
         zigzag();
         everyYardComesAgain();
+        aRiseForATurn();
         asManyYards();
         zigzagAsOnThisDay();
         zigzagRests();
@@ -169,6 +170,21 @@ final class AskBoundTest {
             x.build(side, kind == 0 ? by : 1, kind == 0 ? 1 : by);
         }
         return x;
+    }
+
+    /** Likewise; by hand a YARD has a RISE of 1 and the next one no TURN, later the first has no RISE and the next one a TURN. */
+    private static void aRiseForATurn() {
+        for (int odd = 1; odd < 36; odd++) {
+            for (int side = 0; side < 2; side++) {
+                HalfBridge x = Told.at(CHECK, "wide 40",
+                        "pull other+tall=0 and yards=1;wait not [ other+tall=38 and yards=0 ];turn 1",
+                        "pull other=1;wait yards=38;turn 1");
+                for (int i = 0; i < 38; i++) {
+                    x.build(side, i == odd + 1 ? 0 : 1, i == odd ? 1 : 0);
+                }
+                zigzags("a RISE at " + odd, x, side == 0 ? 1 : 0, side, 39 - odd, 78);
+            }
+        }
     }
 
     /** As many YARDS in all each day, and all straight: those of the one SIDE are not those of the other. */
