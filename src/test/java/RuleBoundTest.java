@@ -74,6 +74,13 @@ final class RuleBoundTest {
         CHECK.is("the 400th byte is of it", x.ahead(0, -1, 1, 3), 8);
         faulty("turn 1" + " ".repeat(393) + "+", 400, 0);
         faulty("turn 1" + " ".repeat(393) + ";", 400, 0);
+        for (String sign : new String[] {"<", "=", ">", "<=", ">="}) {
+            faulty("wait 1" + " ".repeat(394 - sign.length()) + sign, 400, 0);
+        }
+        faulty("wait " + " ".repeat(394) + "[", 400, 0);
+        faulty("wait " + " ".repeat(392) + "not", 400, 0);
+        faulty("wait " + " ".repeat(392) + "gap", 400, 0);
+        faulty("wait " + " ".repeat(390) + "12345", 400, 0);
         faulty("turn 1" + " ".repeat(392) + ";;", 399, 0);
     }
 
