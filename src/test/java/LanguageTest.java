@@ -9,6 +9,7 @@ import java.util.List;
 import java.util.TreeSet;
 import java.util.regex.Matcher;
 import java.util.regex.Pattern;
+import java.util.stream.Collectors;
 
 /** The rules of LANGUAGE.md that can be seen in the source or in the class: a landing outside them is sent back. */
 final class LanguageTest {
@@ -18,6 +19,7 @@ final class LanguageTest {
 
     public static void main(String[] args) throws Exception {
         face();
+        faceOfDocument(Files.readString(Path.of("../shared/DOC.md")));
         names();
         source(Files.readString(Path.of("src/main/java/HalfBridge.java")));
         CHECK.close();
@@ -44,6 +46,32 @@ final class LanguageTest {
         CHECK.is("the constructor is public", Modifier.isPublic(made[0].getModifiers()), true);
         CHECK.is("the class is final", Modifier.isFinal(HalfBridge.class.getModifiers()), true);
         CHECK.is("classes", HalfBridge.class.getDeclaredClasses().length + 1 <= 12, true);
+    }
+
+    /** Word for word, so that a face which the document changes is seen here. */
+    private static void faceOfDocument(String document) {
+        TreeSet<String> promised = new TreeSet<>();
+        Matcher m = Pattern.compile("(?m)^    public (static final )?(.*);$").matcher(document);
+        while (m.find()) {
+            promised.add((m.group(1) == null ? "" : m.group(1)) + m.group(2).replaceAll("int \\w+(?=[,)])", "int"));
+        }
+        TreeSet<String> shown = new TreeSet<>();
+        for (Method method : HalfBridge.class.getMethods()) {
+            if (method.getDeclaringClass() == HalfBridge.class) {
+                shown.add(method.getReturnType() + " " + method.getName() + types(method.getParameterTypes()));
+            }
+        }
+        for (Constructor<?> c : HalfBridge.class.getConstructors()) {
+            shown.add(c.getName() + types(c.getParameterTypes()));
+        }
+        for (Field f : HalfBridge.class.getFields()) {
+            shown.add("static final " + f.getType() + " " + f.getName() + " = " + HalfBridge.NONE);
+        }
+        CHECK.same("the document's face", String.join("\n", shown), String.join("\n", promised));
+    }
+
+    private static String types(Class<?>[] types) {
+        return Arrays.stream(types).map(Class::getName).collect(Collectors.joining(", ", "(", ")"));
     }
 
     private static void names() {
